@@ -1408,7 +1408,8 @@ public final class HeadFits {
         for (int pass = 0; pass < 2; pass++) {
           alike = pass == 1;
           best = NO_ROW;
-          if (!alike || atLine > 0) spread(place, widths[first], turn + choiceKey(place, first), echo);
+          long key = turn + choiceKey(place, first);
+          if (!alike || atLine > 0) spread(place, widths[first], key, echo);
           tails[tailPlace(place, atLine, i, alike)] = best;
         }
       }
