@@ -29,6 +29,7 @@ public final class PromisesTest {
     edition();
     readers();
     images();
+    imagesOfOthers();
     counts();
     status();
     Check.close("PromisesTest");
@@ -415,6 +416,15 @@ public final class PromisesTest {
     x.turn();
     due("25 turn", x.undo(), 1);
     x.turn();
+    x.set(0);
+    x.clear();
+    x.set(0);
+    x.set(0);
+    for (int i = 0; i < 3; i++) x.undo();
+    due("25 lines as they were", x.head(1, 1), 1);
+    x.undo();
+    due("25 turn", x.undo(), 1);
+    x.turn();
     due("25 refused", x.breadth(0, 0), -1);
     due("25 refused", x.column(50, 4), -3);
     due("25 refused", x.size(0), -3);
@@ -596,6 +606,7 @@ public final class PromisesTest {
     due("31 three", x.says(400, 0), 3);
     due("31 three", x.says(400, 2), 60);
     due("31 just not", x.says(59, 1), 3);
+    due("31 hairs", x.says(1, 0), 0);
     due("31 hairs", x.says(0, 0), -1);
     due("31 hairs", x.says(401, 0), -1);
     due("31 what", x.says(100, 3), -1);
@@ -771,6 +782,40 @@ public final class PromisesTest {
     x.worth(0, 1);
     x.back(1);
     due("40 kept anew", x.worth(0, 1), 44);
+  }
+
+  // What stands in the same places, but was put there behind another image.
+  private static void imagesOfOthers() {
+    HeadFits x = new HeadFits();
+    x.image(0);
+    fill(x, "fox", 3, 4);
+    x.image(1);
+    x.back(0);
+    due("41 empty", x.count(0), 0);
+    fill(x, "ibex", 5, 6);
+    x.back(1);
+    int[] told = {3, 4, 4, 3, 30, 5, 104, 0};
+    for (int what = 0; what < 8; what++) due("41 word, " + what, x.at(0, what), told[what]);
+    due("41 saying", x.truest(3), 0);
+    due("41 seen", x.changed(-1), 1);
+    due("41 matters", x.edition(0) * 1000 + x.edition(2), 4003);
+    due("41 beside", x.beside(3, -1), 0);
+    due("41 head", x.count(2), 2);
+    due("41 head", x.head(1, 0), 1);
+  }
+
+  private static void fill(HeadFits x, String letters, int sense, int value) {
+    Check.word(x, letters, sense, value, value);
+    Check.word(x, "a", sense, 0, 0);
+    Check.word(x, "b", 0, 0, 0);
+    Check.inForce(x, "loses loss+100 if length=" + letters.length());
+    x.say(sense);
+    x.beside(3, sense == 3 ? 0 : 1);
+    x.set(sense == 3 ? 0 : 1);
+    x.set(sense == 3 ? 1 : 0);
+    x.seen(0, 10 * (letters.length() + letters.length()) + 5);
+    x.seen(3, 0);
+    x.matter(sense, value * 10, value);
   }
 
   private static void counts() {

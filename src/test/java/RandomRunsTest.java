@@ -75,6 +75,8 @@ public final class RandomRunsTest {
       return;
     }
     if (r(3) == 0) column();
+    // Early images, so that places are filled anew with other things behind them.
+    if (r(2) == 0) same("image 0", x.image(0), y.image(0));
     int words = 4 + r(10);
     for (int i = 0; i < words; i++) word(r(heavy ? 3 : 5));
     for (int i = r(heavy ? 7 : 5); i > 0; i--) say();
