@@ -281,6 +281,7 @@ public final class HeadFits {
   }
 
   public int fit(int what) {
+    if (desk.sayingCount == 0) return NONE;
     rows.solve(changes);
     if (what == 1) return rows.ways;
     if (rows.ways == 0) return NONE;
@@ -1244,8 +1245,7 @@ public final class HeadFits {
 
     int lossOf(int word, int size) {
       tellWord(word, size);
-      if (!findHolding(LOSES)) return desk.words.losses[word];
-      return Math.max(0, Math.min(999, reckoner.value));
+      return findHolding(LOSES) ? nearestCost(reckoner.value) : desk.words.losses[word];
     }
 
     boolean isBarred(int word, int size) {
@@ -1262,8 +1262,8 @@ public final class HeadFits {
       facts[FACT_LINE + 3] = alike ? 1 : 0;
       facts[FACT_ECHO] = echo ? 1 : 0;
       tellAlways(desk.size);
-      int cost = findHolding(COSTS) ? reckoner.value : white;
-      return Math.max(0, Math.min(999, cost)) + (alike ? 20 : 0);
+      if (findHolding(COSTS)) return nearestCost(reckoner.value);
+      return Math.max(0, white) + (alike ? 20 : 0);
     }
 
     /** Of a LINE of the HEAD; 0 if it has no WORDS. */
@@ -1272,6 +1272,10 @@ public final class HeadFits {
       if (many == 0) return 0;
       int white = desk.hairs - desk.lineWidth(line);
       return costOf(line, white, many, desk.isAlike(line), desk.isEcho(line));
+    }
+
+    private static int nearestCost(int told) {
+      return Math.max(0, Math.min(999, told));
     }
 
     private void tellWord(int word, int size) {

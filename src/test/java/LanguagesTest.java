@@ -257,7 +257,7 @@ public final class LanguagesTest {
       x.back(0);
       Check.inForce(x, "loses " + words[i] + "+500;costs " + words[i] + "+500");
       due("of a word: " + words[i], x.at(1, 6), ofWord[i] + 500);
-      due("of a line: " + words[i], x.line(1, 2), ofLine[i] + 500 + 20);
+      due("of a line: " + words[i], x.line(1, 2), ofLine[i] + 500);
     }
   }
 

@@ -244,8 +244,8 @@ final class PlainHeads {
         default: return -1;
       }
     });
-    int cost = sum == null ? Math.max(0, white) : Math.max(0, Math.min(999, sum));
-    return cost + (alike ? 20 : 0);
+    if (sum != null) return Math.max(0, Math.min(999, sum));
+    return Math.max(0, white) + (alike ? 20 : 0);
   }
 
   private int costs(List<List<Integer>> lines) {
@@ -518,6 +518,7 @@ final class PlainHeads {
       best = row;
       least = cost;
     }
+    if (s.saying.isEmpty()) return -1;
     if (what == 1) return fitting;
     if (best == null) return -1;
     if (what == 0) return least;

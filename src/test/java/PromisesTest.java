@@ -21,6 +21,7 @@ public final class PromisesTest {
     costs();
     undo();
     fit();
+    fitAlike();
     fitTies();
     overNarrowLargest();
     truest();
@@ -384,10 +385,17 @@ public final class PromisesTest {
     due("23 all white is used", x.line(0, 2), 0);
     Check.inForce(x, "costs 0-white*1000; loses 0-5; costs white if many>1");
     due("24 below 0 is 0, above 999 is 999", x.line(0, 2), 0);
-    due("24 alike comes above", x.line(1, 2), 0 + 20);
+    due("24 alike adds nothing to what a law tells", x.line(1, 2), 0);
     Check.inForce(x, "costs line*1000 ; loses 1000");
-    due("23 999 at most, then 20", x.line(1, 2), 1019);
-    due("24", x.cost(), 999 + 999 + 0 + 1019);
+    due("23 999 at most, also if alike", x.line(1, 2), 999);
+    due("24", x.cost(), 999 + 999 + 0 + 999);
+    Check.inForce(x, "costs 7 if line=0; costs 8/0 if line=1");
+    due("23 where none holds 20 more if alike", x.line(1, 2), 20 + 20);
+    due("24 line by line", x.cost(), 30 + 7 + 20 + 20);
+    Check.inForce(x, "costs 7+20*alike");
+    due("24 a law may ask for alike itself", x.cost(), 30 + 7 + 27);
+    Check.inForce(x, "loses 1; bars if word=9");
+    due("24 a law without costs", x.cost(), 1 + 1 + 0 + 20 + 20);
     HeadFits y = new HeadFits();
     Check.word(y, "aaaaaaaaa", 0, 0, 0);
     y.set(0);
@@ -438,8 +446,12 @@ public final class PromisesTest {
   private static void fit() {
     HeadFits x = new HeadFits();
     due("26 no saying", x.fit(0), -1);
-    due("26 no saying: no ROW", x.fit(1), 0);
+    due("26 no saying, for 1 too", x.fit(1), -1);
     due("26 no saying", x.fit(2), -1);
+    x.say(0);
+    due("26 a sense is told", x.fit(1), 0);
+    due("26 a sense is told", x.hush(), 1);
+    due("26 no saying again", x.fit(1), -1);
     Check.word(x, "abcdefghi", 0, 0, 0);
     x.say(0);
     x.say(1);
@@ -465,6 +477,31 @@ public final class PromisesTest {
     due("26 one line fits", x.fit(0), 9);
     Check.inForce(x, "bars if truth<5");
     due("26 all barred", x.fit(1), 0);
+    x.hush();
+    due("26 no saying again", x.fit(1), -1);
+  }
+
+  private static void fitAlike() {
+    HeadFits x = new HeadFits();
+    Check.word(x, "ab", 0, 0, 5);
+    Check.word(x, "ac", 1, 0, 10);
+    Check.word(x, "cc", 1, 15, 0);
+    x.say(0);
+    x.say(1);
+    x.column(30, 2);
+    due("26 another word loses less than alike costs", x.fit(4), 2);
+    due("26 white and the loss", x.fit(0), 10 + 10 + 15);
+    due("30 white and alike", x.truest(2), 10 + 10 + 20);
+    Check.inForce(x, "costs white");
+    due("26 a law costs nothing more for alike", x.fit(4), 1);
+    due("26 a law costs nothing more for alike", x.fit(0), 10 + 10);
+    due("30 a law costs nothing more for alike", x.truest(2), 10 + 10);
+    Check.inForce(x, "costs white if line=0");
+    due("26 the law tells of another line", x.fit(4), 2);
+    due("30 the law tells of another line", x.truest(2), 10 + 10 + 20);
+    Check.inForce(x, "costs 1000*alike");
+    due("26 alike is dear", x.fit(4), 2);
+    due("30 999 at most", x.truest(2), 999);
   }
 
   private static void fitTies() {
@@ -474,11 +511,13 @@ public final class PromisesTest {
     x.column(400, 4);
     Check.inForce(x, "costs 0-20");
     due("26 all rows", x.fit(1), 729 * 26);
-    due("26 one line is best, as turns are alike", x.fit(2), 1);
+    due("26 all cost the same, none turns first", x.fit(2), 1);
     due("26 the first words", x.fit(8), 0);
     x.column(45, 4);
     due("26 three lines of two or four", x.fit(1), 729 * (1 + 6));
-    due("26 cost", x.fit(0), 30 + 20 * 2);
+    due("26 a law costs nothing more for alike", x.fit(0), 30);
+    x.force(-1);
+    due("26 20 more for each line that is alike", x.fit(0), 30 + 20 * 2);
     int[] turns = {0, 0, 1, 0, 1, 0};
     for (int i = 0; i < 6; i++) due("26 turns", x.fit(9 + i), turns[i]);
     Check.inForce(x, "costs 0; loses 9-word if size=0");
