@@ -1,13 +1,19 @@
 /** Counts answers that are not as due, and writes texts on a TAPE. */
 final class Check {
   private static int wrong = 0;
+  private static String test = "";
 
   private Check() {}
+
+  /** What is told of wrong answers from here on begins with the name of that test. */
+  static void begin(String name) {
+    test = name + ": ";
+  }
 
   static void due(String call, long got, long want) {
     if (got == want) return;
     wrong++;
-    if (wrong <= 50) System.out.println(call + " answered " + got + ", due is " + want);
+    if (wrong <= 50) System.out.println(test + call + " answered " + got + ", due is " + want);
   }
 
   static void isSo(String what, boolean so) {
@@ -20,7 +26,7 @@ final class Check {
     if (wrong != 0) System.exit(1);
   }
 
-  /** Puts a text of at most 380 signs behind the TAPE, which must be empty. */
+  /** Puts a text of at most 400 signs on the TAPE, which must be empty. */
   static void write(HeadFits x, String text) {
     int[] number = new int[5];
     for (int from = 0; from < text.length(); from += 20) {
