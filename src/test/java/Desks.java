@@ -63,6 +63,25 @@ final class Desks {
     leaveTraces(x);
   }
 
+  /** All room is taken once more, by other things in the same places. */
+  static void fullOfOthers(HeadFits x) {
+    for (int i = 0; i < 16; i++) Check.word(x, "zyxwvuts" + (char) ('a' + i), 7 - i / 2, 50, 5);
+    x.column(397, 3);
+    x.breadth(26, 2);
+    x.breadth(25, 1);
+    for (int i = 0; i < 6; i++) {
+      Check.law(x, "loses " + (i + 10));
+      x.say(7 - i);
+    }
+    for (int i = 0; i < 4; i++) x.seen(3 - i, 90 + i);
+    for (int i = 0; i < 8; i++) x.matter(15 - i, 99 - 7 * i, 9 - i);
+    x.force(4);
+    for (int i = 0; i < 12; i++) {
+      x.set(15 - i);
+      if (i % 4 == 3) x.turn();
+    }
+  }
+
   /** WORDS that are as broad as they have letters, times ten: 10, 20, 30, 90. */
   static void words(HeadFits x) {
     Check.word(x, "a", 0, 1, 10);

@@ -87,9 +87,11 @@ final class HeadBounds {
     HeadFits x = withWords();
     x.say(0);
     due("a row", x.fit(1), 1);
+    due("it is true", x.truest(0), 1);
     x.hush();
     due("none told", x.fit(1), -1);
     due("no row", x.narrow(), -1);
+    due("none is true", x.truest(0), -1);
     x.say(1);
     due("another word", x.fit(3), 1);
   }
@@ -443,6 +445,15 @@ final class HeadBounds {
     due("the middle one", x.line(1, 4), 1);
     x.beside(1, -1);
     due("none next door", x.line(1, 4), 0);
+  }
+
+  static void promise23TheFirstWordOfTheHeadIsAnEcho() {
+    HeadFits x = withWords();
+    x.beside(0, 0);
+    x.set(0);
+    due("alone", x.line(0, 4), 1);
+    x.set(1);
+    due("with another behind it", x.line(0, 4), 1);
   }
 
   static void promise23TheSameLettersAreNoEcho() {

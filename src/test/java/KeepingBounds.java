@@ -154,6 +154,54 @@ final class KeepingBounds {
     Bounds.same("back", Snapshot.asked(x), Snapshot.asked(y), "count 6");
   }
 
+  /** Back to a full desk, though others stood in all its places in the meantime. */
+  private static void backToFull(boolean others) {
+    HeadFits x = new HeadFits();
+    x.image(0);
+    fill(x, others);
+    x.image(1);
+    x.back(0);
+    x.end(0);
+    fill(x, !others);
+    x.end(0);
+    x.back(1);
+    HeadFits y = new HeadFits();
+    fill(y, others);
+    y.end(0);
+    Bounds.same("back", Snapshot.asked(x), Snapshot.asked(y), "count 6", "fault", "stopped");
+  }
+
+  private static void fill(HeadFits x, boolean others) {
+    if (others) Desks.fullOfOthers(x);
+    else Desks.full(x);
+  }
+
+  static void promise41AllPlacesAreAsTheyWereThoughOthersStoodThere() {
+    backToFull(false);
+    backToFull(true);
+  }
+
+  // CHANGED tells nothing where one of the four is not as it was.
+  static void promise41AllFourThatWereSeenAreAsTheyWere() {
+    HeadFits x = new HeadFits();
+    Check.word(x, "a", 0, 0, 0);
+    Check.word(x, "bb", 0, 0, 0);
+    x.set(0);
+    x.seen(0, 20);
+    for (int line = 1; line < 4; line++) x.seen(line, 0);
+    x.image(0);
+    x.forget();
+    for (int i = 0; i < 4; i++) x.seen(0, 999 - i);
+    due("none is as seen", x.changed(-1), 0);
+    x.back(0);
+    due("one is", x.changed(-1), 1);
+    x.forget();
+    x.seen(3, 7);
+    x.back(0);
+    due("one is again", x.changed(-1), 1);
+    due("there are", x.count(3), 4);
+  }
+
   static void promise41TheTapeStays() {
     HeadFits x = new HeadFits();
     x.image(0);
@@ -255,6 +303,21 @@ final class KeepingBounds {
     due("the second as it was", x.at(0, 6), 2);
     x.back(0);
     due("the first", x.at(0, 6), 1);
+  }
+
+  static void promise41TheFirstLawComesAndGoesToo() {
+    HeadFits x = new HeadFits();
+    x.image(0);
+    Check.word(x, "a", 0, 0, 0);
+    Check.inForce(x, "loses 1");
+    x.image(1);
+    x.back(0);
+    due("none is there", x.force(0), -2);
+    due("none is in force", x.count(13), -1);
+    Check.law(x, "loses 2");
+    x.back(1);
+    due("it is in force", x.count(13), 0);
+    due("as it was", x.at(0, 6), 1);
   }
 
   static void promise41RefusalsAreNotKept() {

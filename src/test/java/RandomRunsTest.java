@@ -1,6 +1,9 @@
 import java.util.Random;
 
-/** Random runs of at most 512 calls, each answer compared with the one of PlainHeads. */
+/**
+ * Random runs of 512 calls, each answer compared with the one of PlainHeads. What a run goes by is
+ * asked of PlainHeads, so that all calls of HeadFits are counted.
+ */
 public final class RandomRunsTest {
   private static final int RUNS = 600;
   private static final int CALLS = 512;
@@ -37,6 +40,8 @@ public final class RandomRunsTest {
 
   private void same(String call, int got, int want) {
     calls++;
+    // What an object answers behind its 512th call is free.
+    if (calls > CALLS) return;
     told.append(call).append(" = ").append(got).append('\n');
     if (got == want) return;
     if (!wrong) told.append("due is ").append(want).append('\n');
@@ -93,13 +98,13 @@ public final class RandomRunsTest {
   private void narrowStep() {
     switch (r(9)) {
       case 0: narrowColumn(); break;
-      case 1: if (r(3) == 0) law(); else force(r(Math.max(1, x.count(5)))); break;
+      case 1: if (r(3) == 0) law(); else force(r(Math.max(1, y.count(5)))); break;
       case 2: breadth(); break;
       case 3: size(); break;
-      case 4: if (x.count(1) > 3) same("hush", x.hush(), y.hush()); else sayOne(r(4)); break;
+      case 4: if (y.count(1) > 3) same("hush", x.hush(), y.hush()); else sayOne(r(4)); break;
       case 5: sayOne(r(4)); break;
       case 6: worthsAndTerms(); break;
-      case 7: if (x.count(5) < 6) write("costs [white+line*many]%7+echo*3;loses word%2"); costLaw(); break;
+      case 7: if (y.count(5) < 6) write("costs [white+line*many]%7+echo*3;loses word%2"); costLaw(); break;
       default: beside(); break;
     }
     if (r(3) == 0) rows();
@@ -107,7 +112,7 @@ public final class RandomRunsTest {
 
   private void costLaw() {
     same("law", x.law(), y.law());
-    force(Math.max(0, x.count(5) - 1));
+    force(Math.max(0, y.count(5) - 1));
   }
 
   private void step() {
@@ -168,14 +173,14 @@ public final class RandomRunsTest {
     int b = near(0, r(2) == 0 ? 99 : 5);
     int c = near(0, 10);
     same("word " + sense + " " + b + " " + c, x.word(sense, b, c), y.word(sense, b, c));
-    if (x.count(7) > 0) same("end 0", x.end(0), y.end(0));
+    if (y.count(7) > 0) same("end 0", x.end(0), y.end(0));
   }
 
   private void law() {
     write(new PlainTexts(random, true).text());
     same("law", x.law(), y.law());
     same("fault", x.fault(), y.fault());
-    if (r(2) == 0) force(x.count(5) - 1);
+    if (r(2) == 0) force(y.count(5) - 1);
   }
 
   private void settings() {
@@ -192,7 +197,7 @@ public final class RandomRunsTest {
   }
 
   private void say() {
-    if (!heavy && x.count(1) >= 4 && r(5) > 0) return;
+    if (!heavy && y.count(1) >= 4 && r(5) > 0) return;
     sayOne(near(0, r(4) == 0 ? 7 : heavy ? 2 : 4));
   }
 
@@ -207,7 +212,7 @@ public final class RandomRunsTest {
   }
 
   private void set() {
-    int a = near(0, Math.max(0, x.count(0) - 1));
+    int a = near(0, Math.max(0, y.count(0) - 1));
     same("set " + a, x.set(a), y.set(a));
   }
 
@@ -215,9 +220,9 @@ public final class RandomRunsTest {
     if (r(3) == 0) same("forget", x.forget(), y.forget());
     int a = near(0, 3);
     int b = near(0, 999);
-    if (r(3) > 0 && x.count(2) > 0) {
+    if (r(3) > 0 && y.count(2) > 0) {
       a = r(3);
-      b = Math.max(0, Math.min(999, x.line(a, 0) + 5 * r(3)));
+      b = Math.max(0, Math.min(999, y.line(a, 0) + 5 * r(3)));
     }
     same("seen " + a + " " + b, x.seen(a, b), y.seen(a, b));
     for (int i = -2; i < 4; i++) same("changed " + i, x.changed(i), y.changed(i));

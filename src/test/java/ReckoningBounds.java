@@ -342,6 +342,39 @@ final class ReckoningBounds {
     due("where another holds", x.line(2, 2), 4);
   }
 
+  static void promise23AlikeIs0Or1ForALaw() {
+    HeadFits x = threeLines();
+    Check.inForce(x, "costs 10+alike");
+    due("the first", x.line(0, 2), 10);
+    due("alike", x.line(1, 2), 11);
+    due("not alike", x.line(2, 2), 10);
+  }
+
+  static void promise23EchoIs0Or1ForALaw() {
+    HeadFits x = threeLines();
+    x.beside(0, 0);
+    x.beside(1, 2);
+    Check.inForce(x, "costs 10+echo");
+    due("the word itself", x.line(0, 2), 11);
+    due("a word of another line", x.line(1, 2), 10);
+    due("none next door", x.line(2, 2), 10);
+  }
+
+  // Each is asked first behind the change, when nothing has been asked of a WORD since.
+  static void promise23SizeDayAndMoodAreToldOfALineToo() {
+    HeadFits x = new HeadFits();
+    Desks.words(x);
+    x.size(2);
+    Check.inForce(x, "costs day+mood*100+size*10");
+    x.set(0);
+    x.terms(0, 5);
+    due("day", x.line(0, 2), 25);
+    x.terms(1, 9);
+    due("mood", x.line(0, 2), 925);
+    Check.settings(x, "turn if left=0");
+    due("behind settings that asked", x.line(0, 2), 925);
+  }
+
   static void promise23NoWordsCostNothing() {
     HeadFits x = oneWord();
     Check.inForce(x, "costs 500");

@@ -10,6 +10,7 @@ public final class RoomTest {
     constructors();
     questions();
     texts();
+    laws();
     images();
     Check.close("RoomTest");
   }
@@ -88,8 +89,12 @@ public final class RoomTest {
       x.settings();
     }
     atMost("settings", made() - before, 200);
+  }
+
+  private static void laws() {
+    HeadFits x = busy();
     x.image(0);
-    before = made();
+    long before = made();
     for (int i = 0; i < 100; i++) {
       x.back(0);
       x.feed(0x62617273, 0, 0, 0, 0);

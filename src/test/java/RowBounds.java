@@ -121,6 +121,83 @@ final class RowBounds {
     due("one way", x.fit(1), 1);
   }
 
+  static void promise26NoTurnAheadOfTheFirstWhateverItsWord() {
+    HeadFits x = saying(1, 1);
+    x.column(20, 2);
+    due("the first word", x.fit(3), 1);
+    due("no turn ahead of it", x.fit(9), 0);
+    due("no turn in the truest", x.truest(9), 0);
+    due("a turn ahead of the second", x.truest(10), 1);
+  }
+
+  static void promise26ATurnAheadOfTheSixth() {
+    HeadFits x = saying(0, 0, 0, 0, 0, 3);
+    x.column(90, 2);
+    due("ways", x.fit(1), 1);
+    due("lines", x.fit(2), 2);
+    for (int i = 0; i < 6; i++) {
+      due("turn " + i, x.fit(9 + i), i == 5 ? 1 : 0);
+      due("turn of the truest " + i, x.truest(9 + i), i == 5 ? 1 : 0);
+    }
+    x.column(400, 1);
+    due("one line", x.fit(2), 1);
+    for (int i = 0; i < 6; i++) due("no turn of the truest " + i, x.truest(9 + i), 0);
+  }
+
+  static void promise26NoRowAnyMore() {
+    HeadFits x = saying(0);
+    due("one", x.fit(1), 1);
+    Check.inForce(x, "bars");
+    due("barred", x.fit(1), 0);
+    due("barred", x.fit(0), -1);
+    due("barred", x.truest(0), -1);
+    x.force(-1);
+    due("one again", x.fit(1), 1);
+    x.say(7);
+    due("no word for the second", x.fit(1), 0);
+    due("no word for the second", x.truest(3), -1);
+  }
+
+  static void promise26AnEchoOfTheFirstOrALaterWord() {
+    HeadFits x = new HeadFits();
+    for (int i = 0; i < 4; i++) Check.word(x, "ab", i / 2, 0, 0);
+    x.say(0);
+    x.say(1);
+    x.column(100, 1);
+    Check.inForce(x, "costs 10*echo");
+    due("the first words", x.fit(3) * 10 + x.fit(4), 2);
+    x.beside(0, 0);
+    due("no echo by the first", x.fit(3) * 10 + x.fit(4), 12);
+    x.beside(0, 2);
+    due("no echo by the second", x.fit(3) * 10 + x.fit(4), 3);
+    x.column(20, 2);
+    due("the second stands in another line", x.fit(3) * 10 + x.fit(4), 2);
+    x.beside(1, 2);
+    due("no echo in the second line", x.fit(3) * 10 + x.fit(4), 3);
+    due("cost", x.fit(0), 0);
+  }
+
+  static void promise26TwentyMoreForEachLineThatIsAlike() {
+    HeadFits x = new HeadFits();
+    Check.word(x, "xa", 5, 0, 0);
+    Check.word(x, "ab", 0, 0, 0);
+    Check.word(x, "bb", 0, 20, 0);
+    Check.word(x, "cb", 0, 21, 0);
+    x.say(0);
+    x.say(0);
+    x.column(20, 3);
+    due("as dear as another word", x.fit(0), 20);
+    due("the first words", x.fit(3) * 10 + x.fit(4), 11);
+    Check.inForce(x, "loses 19 if word=2");
+    due("another word is cheaper", x.fit(0), 19);
+    due("words", x.fit(3) * 10 + x.fit(4), 12);
+    x.say(0);
+    due("one between two", x.fit(0), 19);
+    due("words", x.fit(3) * 100 + x.fit(4) * 10 + x.fit(5), 121);
+    Check.inForce(x, "bars if word>1");
+    due("twice alike", x.fit(0), 40);
+  }
+
   static void promise26LinesAtMost() {
     for (int lines = 1; lines <= 4; lines++) {
       HeadFits x = saying();
@@ -396,6 +473,26 @@ final class RowBounds {
     due("a turn, if one hair is missing", x.truest(10), 1);
   }
 
+  static void promise30ItCostsInAllItsLines() {
+    HeadFits x = new HeadFits();
+    Check.word(x, "ab", 0, 1, 9);
+    Check.word(x, "ac", 1, 2, 9);
+    Check.word(x, "c", 2, 4, 9);
+    x.say(0);
+    x.say(1);
+    x.say(2);
+    x.column(36, 3);
+    due("white, and alike once", x.truest(2), 7 + 16 + 16 - 15 + 20);
+    Check.inForce(x, "costs line*100+many*10+echo");
+    due("lines and how many", x.truest(2), 7 + 10 + 120);
+    x.beside(0, 0);
+    due("an echo by the first", x.truest(2), 7 + 11 + 120);
+    x.beside(1, 2);
+    due("an echo by the last", x.truest(2), 7 + 11 + 121);
+    x.beside(1, 0);
+    due("an echo of another line", x.truest(2), 7 + 11 + 120);
+  }
+
   static void promise30OnlyRowsThatFit() {
     HeadFits x = new HeadFits();
     Check.word(x, "aaaa", 0, 0, 10);
@@ -437,6 +534,15 @@ final class RowBounds {
     z.force(-1);
     for (int what = 0; what < 3; what++) due("too broad, " + what, z.says(9, what), 0);
     due("it just fits", z.says(10, 1), 1);
+  }
+
+  static void promise31ASenseWithoutAWordIsLeftOut() {
+    HeadFits x = saying(7, 0, 6);
+    x.worth(7, 99);
+    x.worth(6, 99);
+    due("worth", x.says(400, 0), 1);
+    due("the second place alone", x.says(400, 1), 2);
+    due("broad", x.says(400, 2), 10);
   }
 
   static void promise31OneHairIsEnough() {

@@ -179,6 +179,7 @@ final class SettingsBounds {
   static void promise12WhatWasDoneAheadOfTheStopIsTakenBack() {
     stops(Desks::busy, "clear;size 2;set 0;turn;set 2;turn;turn", -3, 6);
     stops(Desks::busy, "turn;set 2;set 0;clear;clear", -3, 4);
+    stops(Desks::busy, "clear;set 2 times 3;turn times 2", -3, 2);
     stops(Desks::fullHead, "turn;clear;size 1;set 0 times 12;set 0", -5, 4);
   }
 

@@ -145,6 +145,38 @@ final class TextBounds {
     law("loses" + many(" ", 395), 400);
   }
 
+  /**
+   * A TEXT is cut off behind each TOKEN in turn. Where it may end, "|" stands behind the TOKEN;
+   * where it may not, neither its end nor ";" can go on.
+   */
+  private static void cutOff(boolean forLaw, String tokens) {
+    StringBuilder text = new StringBuilder();
+    for (String token : tokens.split(" ")) {
+      boolean may = token.endsWith("|");
+      text.append(text.length() == 0 ? "" : " ").append(token.replace("|", ""));
+      cutOffAt(forLaw, text.toString(), may ? GOOD : text.length());
+      cutOffAt(forLaw, text + "  ", may ? GOOD : text.length() + 2);
+      cutOffAt(forLaw, text + ";", text.length() + (may ? 1 : 0));
+      cutOffAt(forLaw, text + " ?", text.length() + 1);
+    }
+  }
+
+  private static void cutOffAt(boolean forLaw, String text, int fault) {
+    if (forLaw) law(text, fault);
+    else settings(text, fault);
+  }
+
+  static void promise13ALawThatIsCutOff() {
+    cutOff(true, "loses [ 1 + word ]| * 2| - 3| / 4| % [ [ 5 ] ]| if 1 < 2|");
+    cutOff(true, "costs white| if not ( 1 < 2 or 2 > 1 and not 3 = 3 )| and 1 = 1| or 2 = 2|");
+    cutOff(true, "bars| if ( ( [ 1 ] = [ 2 ] ) )| ; bars| ; loses 1| ; bars| if 1 = 1|");
+  }
+
+  static void promise13SettingsThatAreCutOff() {
+    cutOff(false, "set broad 3| + sense 4| * [ 2 ]| times 3| if words < 4| + 1|");
+    cutOff(false, "turn| times 3| if left > 2| ; clear| ; size 1| if not done = 0|");
+  }
+
   static void promise13TwelveClausesAtMost() {
     law(many("bars;", 11) + "bars", GOOD);
     law(many("bars;", 12) + "bars", 60);
@@ -211,6 +243,32 @@ final class TextBounds {
     law("loses " + many("1+", 47) + "1 if 1+1=1", 109);
     law("bars if " + many("1=1 and ", 25) + "1=1", 208);
     law("bars if " + many("1=1 and ", 24) + "1=1", GOOD);
+  }
+
+  // What was counted of one TEXT must not be left for the next one, be it good or bad.
+  static void promise13EachTextHasItsOwnParts() {
+    HeadFits x = new HeadFits();
+    for (int i = 0; i < 6; i++) {
+      due("settings " + i, Check.settings(x, "size 0*[" + many("1+", 48) + "1]"), 1);
+      due("a bad text " + i, Check.settings(x, "size " + many("1*", 49) + "1 1"), -6);
+      due("law " + i, Check.law(x, "loses " + many("1+", 49) + "1"), i);
+    }
+  }
+
+  static void promise13EachTextHasItsOwnClauses() {
+    HeadFits x = new HeadFits();
+    for (int i = 0; i < 6; i++) {
+      due("law " + i, Check.law(x, many("bars;", 11) + "bars"), i);
+      due("settings " + i, Check.settings(x, many("size 0;", 11) + "size 0"), 12);
+    }
+  }
+
+  static void promise13EachTextHasItsOwnBrackets() {
+    HeadFits x = new HeadFits();
+    for (int i = 0; i < 6; i++) {
+      due("a bad text " + i, Check.law(x, "loses " + many("[", 8)), -6);
+      due("law " + i, Check.law(x, "loses " + many("[", 8) + "1" + many("]", 8)), i);
+    }
   }
 
   static void promise13BracketsAreNoParts() {
@@ -308,6 +366,11 @@ final class TextBounds {
     test("(1=1]", 4);
     test("not", 3);
     test("1=1 and", 7);
+    test("1=1 or", 6);
+    test("(", 1);
+    test("1=", 2);
+    sum("1*", 2);
+    sum("[", 1);
     test("or 1=1", 0);
     sum("1<2", 1);
   }

@@ -107,6 +107,21 @@ final class UndoBounds {
     due("it can be again", x.turn(), 3);
   }
 
+  static void promise25LinesAreAsTheyWereThoughOthersStoodThere() {
+    HeadFits x = withWords();
+    for (int word = 0; word < 3; word++) {
+      x.set(word);
+      x.turn();
+    }
+    x.clear();
+    for (int i = 0; i < 3; i++) x.set(0);
+    for (int i = 0; i < 4; i++) x.undo();
+    for (int word = 0; word < 3; word++) {
+      due("word " + word, x.head(word, 0), word);
+      due("line " + word, x.head(word, 1), word);
+    }
+  }
+
   static void promise25BySettingsToo() {
     HeadFits x = withWords();
     x.set(0);
