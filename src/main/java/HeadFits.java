@@ -94,7 +94,6 @@ public final class HeadFits {
   private final Head headBefore = new Head();
   private final int[] refusals = new int[5];
   private int tapeLength = 0;
-  private int faultPlace = NONE;
   private int stoppedClause = NONE;
   private int latestRefusal = 0;
   private int changes = 0;
@@ -186,7 +185,7 @@ public final class HeadFits {
     int length = tapeLength;
     tapeLength = 0;
     if (desk.lawCount >= LAW_ROOM) return refuse(NO_ROOM);
-    if (!canBeRead(length, true)) return refuse(BAD_TEXT);
+    if (!parser.reads(tape, length, true)) return refuse(BAD_TEXT);
     desk.laws[desk.lawCount] = parser.text.trimmed();
     desk.lawCount++;
     return granted(desk.lawCount - 1);
@@ -196,12 +195,12 @@ public final class HeadFits {
     int length = tapeLength;
     tapeLength = 0;
     stoppedClause = NONE;
-    if (!canBeRead(length, false)) return refuse(BAD_TEXT);
+    if (!parser.reads(tape, length, false)) return refuse(BAD_TEXT);
     return answered(runWholly(parser.text));
   }
 
   public int fault() {
-    return faultPlace;
+    return parser.faultPlace;
   }
 
   public int stopped() {
@@ -465,12 +464,6 @@ public final class HeadFits {
       tape[tapeLength] = (byte) (four >>> shift);
       tapeLength++;
     }
-  }
-
-  private boolean canBeRead(int length, boolean forLaw) {
-    boolean good = parser.reads(tape, length, forLaw);
-    faultPlace = good ? NONE : parser.faultPlace;
-    return good;
   }
 
   // These four answer as the calls do, but count nothing: SETTINGS use them, too.
@@ -948,6 +941,7 @@ public final class HeadFits {
     private static final int SIGN = 3;
 
     final Text text = new Text(CODE_ROOM, CLAUSE_ROOM);
+    // FAULT of the latest TEXT that was read; NONE without.
     int faultPlace = NONE;
     // Held once for all methods; empty until there is a TAPE to read.
     private byte[] bytes = new byte[0];

@@ -5,7 +5,10 @@ import java.lang.reflect.Method;
 import java.lang.reflect.Modifier;
 import java.nio.file.Files;
 import java.nio.file.Path;
+import java.util.ArrayList;
+import java.util.List;
 import java.util.Set;
+import java.util.TreeMap;
 import java.util.TreeSet;
 import java.util.regex.Matcher;
 import java.util.regex.Pattern;
@@ -102,6 +105,65 @@ public final class LanguageRulesTest {
         "Integer.bitCount", "Long.bitCount");
     while (library.find()) Check.isSo("listed: " + library.group(), listed.contains(library.group()));
     methodsAreShort(all);
+    callsGoEightDeep(code);
+  }
+
+  /** Each method's name with the names of methods that its lines call. */
+  private static TreeMap<String, Set<String>> calls(String code) {
+    TreeMap<String, Set<String>> called = new TreeMap<>();
+    Pattern head = Pattern.compile("^ {2,4}(?:\\w+ )*\\w+(?:\\[\\])? (\\w+)\\(.*\\) \\{.*$");
+    Pattern call = Pattern.compile("\\b([a-z]\\w*)\\(");
+    Set<String> now = new TreeSet<>();
+    for (String line : code.split("\n")) {
+      Matcher begins = head.matcher(line);
+      if (begins.matches() && !line.contains(" new ")) {
+        now = called.computeIfAbsent(begins.group(1), name -> new TreeSet<>());
+      } else {
+        Matcher m = call.matcher(line);
+        while (m.find()) now.add(m.group(1));
+      }
+    }
+    for (Set<String> names : called.values()) names.retainAll(called.keySet());
+    return called;
+  }
+
+  // Methods of one name are taken for one, and those that call one another count once, so that
+  // this may tell more than there is, never less.
+  private static void callsGoEightDeep(String code) {
+    TreeMap<String, Set<String>> called = calls(code);
+    TreeMap<String, Set<String>> reached = new TreeMap<>();
+    for (String name : called.keySet()) {
+      List<String> open = new ArrayList<>(called.get(name));
+      Set<String> found = new TreeSet<>();
+      while (!open.isEmpty()) {
+        String next = open.remove(open.size() - 1);
+        if (found.add(next)) open.addAll(called.get(next));
+      }
+      reached.put(name, found);
+    }
+    Check.isSo("calls were found", reached.get("settings").contains("isSpelt"));
+    TreeMap<String, Integer> depths = new TreeMap<>();
+    for (String name : called.keySet()) {
+      int depth = depth(name, called, reached, depths);
+      Check.isSo("calls of " + name + " go " + depth + " deep, eight at most", depth <= 8);
+    }
+  }
+
+  private static int depth(String name, TreeMap<String, Set<String>> called,
+      TreeMap<String, Set<String>> reached, TreeMap<String, Integer> depths) {
+    if (depths.containsKey(name)) return depths.get(name);
+    Set<String> group = new TreeSet<>(Set.of(name));
+    for (String other : reached.get(name)) {
+      if (reached.get(other).contains(name)) group.add(other);
+    }
+    int deepest = 0;
+    for (String member : group) {
+      for (String next : called.get(member)) {
+        if (!group.contains(next)) deepest = Math.max(deepest, depth(next, called, reached, depths));
+      }
+    }
+    depths.put(name, deepest + 1);
+    return deepest + 1;
   }
 
   private static void methodsAreShort(String all) {
